@@ -17,6 +17,10 @@ final class Checks {
         }
     }
 
+    int made() {
+        return made;
+    }
+
     /** The class of the exception is compared exactly: one of the machine's own does not pass for its parent. */
     void raises(String what, Class<? extends RuntimeException> due, Call call) {
         equal(what, answerOf(call), due);

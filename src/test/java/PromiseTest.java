@@ -106,24 +106,9 @@ public final class PromiseTest {
         CHECKS.raises(what, due, call);
     }
 
-    /** A school with one umbrella. */
-    private static UmbrellaSchool schoolWith(int memory) {
-        UmbrellaSchool school = new UmbrellaSchool();
-        school.addUmbrella(memory);
-        return school;
-    }
-
-    /** Umbrella 0 with the given memory remembers -6, -6 (closed) and 9 (open) in rain 3, wind 1. */
-    private static UmbrellaSchool exploredSchool(int memory) {
-        UmbrellaSchool school = schoolWith(memory);
-        school.setPeriod(0, 3);
-        school.train(0, 3, 1, 3);
-        return school;
-    }
-
     private static void needsUmbrella(String what, ByUmbrella question) {
         raises(what + " without umbrellas", NO_INDEX, () -> question.ask(new UmbrellaSchool(), 0));
-        UmbrellaSchool school = schoolWith(3);
+        UmbrellaSchool school = Schools.with(3);
         school.addUmbrella(4);
         for (int wrong : new int[] {Integer.MIN_VALUE, -1, 2, 6, Integer.MAX_VALUE}) {
             raises(what + " of umbrella " + wrong, NO_INDEX, () -> question.ask(school, wrong));
@@ -135,34 +120,6 @@ public final class PromiseTest {
             raises(what + " with rain " + wrong, BAD_ARGUMENT, () -> question.ask(wrong, 0));
             raises(what + " with wind " + wrong, BAD_ARGUMENT, () -> question.ask(0, wrong));
         }
-    }
-
-    private static void type(UmbrellaSchool school, String text) {
-        for (int i = 0; i < text.length(); i++) {
-            school.type(text.charAt(i));
-        }
-    }
-
-    private static Object run(UmbrellaSchool school, String script) {
-        type(school, script);
-        return Checks.answerOf(() -> school.runScript());
-    }
-
-    private static String output(UmbrellaSchool school, int length) {
-        StringBuilder text = new StringBuilder();
-        for (int i = 0; i < length; i++) {
-            text.append(school.outputAt(i));
-        }
-        raises("outputAt behind the text", NO_INDEX, () -> school.outputAt(length));
-        return text.toString();
-    }
-
-    private static String habits(UmbrellaSchool school, int umbrella) {
-        return output(school, school.renderHabits(umbrella));
-    }
-
-    private static String description(UmbrellaSchool school, int umbrella) {
-        return output(school, school.renderUmbrella(umbrella));
     }
 
     // ---- promises 1 to 9
@@ -196,7 +153,7 @@ public final class PromiseTest {
         raises("a seventh umbrella", BAD_STATE, () -> school.addUmbrella(3));
         raises("a seventh umbrella with memory 2", BAD_ARGUMENT, () -> school.addUmbrella(2));
         equal("umbrellas after failed calls", school.umbrellaCount(), 6);
-        UmbrellaSchool again = schoolWith(5);
+        UmbrellaSchool again = Schools.with(5);
         again.train(0, 1, 1, 9);
         again.setPeriod(0, 4);
         again.examine(0, 3);
@@ -204,12 +161,12 @@ public final class PromiseTest {
         again.addUmbrella(7);
         again.undo();
         again.addUmbrella(8);
-        equal("a fresh umbrella after undo", description(again, 1), "0/8p0*0:");
+        equal("a fresh umbrella after undo", Schools.description(again, 1), "0/8p0*0:");
         equal("its trials", again.trials(1), 0);
     }
 
     private static void promise3Train() {
-        UmbrellaSchool school = schoolWith(3);
+        UmbrellaSchool school = Schools.with(3);
         equal("closed trials first", school.train(0, 3, 1, 2), -12);
         school.setPeriod(0, 3);
         equal("trial 3 explores", school.train(0, 3, 1, 1), 9);
@@ -225,13 +182,13 @@ public final class PromiseTest {
             raises("train " + wrong + " times", BAD_ARGUMENT, () -> school.train(0, 0, 0, wrong));
         }
         equal("trials after failed calls", school.trials(0), 6);
-        equal("nine trials", schoolWith(20).train(0, 1, 0, 9), -18);
+        equal("nine trials", Schools.with(20).train(0, 1, 0, 9), -18);
         trainForgetsOnlyAfterTheAction();
         trainTakesPenaltiesOfItsTime();
     }
 
     private static void trainForgetsOnlyAfterTheAction() {
-        UmbrellaSchool school = schoolWith(3);
+        UmbrellaSchool school = Schools.with(3);
         school.setPeriod(0, 1);
         school.train(0, 3, 0, 1);
         school.setPeriod(0, 0);
@@ -241,7 +198,7 @@ public final class PromiseTest {
     }
 
     private static void trainTakesPenaltiesOfItsTime() {
-        UmbrellaSchool school = schoolWith(3);
+        UmbrellaSchool school = Schools.with(3);
         school.train(0, 2, 0, 1);
         school.setWetPenalty(9);
         equal("the new penalty", school.train(0, 2, 0, 1), -18);
@@ -250,7 +207,7 @@ public final class PromiseTest {
     }
 
     private static void promise4SetPeriod() {
-        UmbrellaSchool school = schoolWith(3);
+        UmbrellaSchool school = Schools.with(3);
         school.addUmbrella(3);
         equal("the first period", school.setPeriod(0, 9), 0);
         equal("the second one", school.setPeriod(0, 0), 9);
@@ -289,7 +246,7 @@ public final class PromiseTest {
     }
 
     private static void promise7ForgetRain() {
-        UmbrellaSchool school = schoolWith(10);
+        UmbrellaSchool school = Schools.with(10);
         school.train(0, 1, 0, 2);
         school.train(0, 2, 1, 1);
         school.train(0, 1, 3, 3);
@@ -316,7 +273,7 @@ public final class PromiseTest {
     }
 
     private static void promise8Examine() {
-        UmbrellaSchool school = schoolWith(20);
+        UmbrellaSchool school = Schools.with(20);
         // Closed is right in rain 0 for every wind; it pays to open from rain 1 on with wind 0 and 1.
         equal("examine 0", school.examine(0, 0), 1);
         equal("examine 3: 18 - 9 > 0 in rain 2 and 3", school.examine(0, 3), 2);
@@ -375,7 +332,7 @@ public final class PromiseTest {
     }
 
     private static void promise11Memory() {
-        UmbrellaSchool school = schoolWith(3);
+        UmbrellaSchool school = Schools.with(3);
         school.addUmbrella(20);
         equal("memory of 0", school.memory(0), 3);
         equal("memory of 1", school.memory(1), 20);
@@ -389,7 +346,7 @@ public final class PromiseTest {
     }
 
     private static void promise12Period() {
-        UmbrellaSchool school = schoolWith(3);
+        UmbrellaSchool school = Schools.with(3);
         school.addUmbrella(3);
         equal("the period at first", school.period(1), 0);
         school.setPeriod(1, 7);
@@ -399,7 +356,7 @@ public final class PromiseTest {
     }
 
     private static void promise13Trials() {
-        UmbrellaSchool school = schoolWith(3);
+        UmbrellaSchool school = Schools.with(3);
         equal("trials at first", school.trials(0), 0);
         school.train(0, 0, 0, 9);
         school.train(0, 1, 0, 1);
@@ -410,7 +367,7 @@ public final class PromiseTest {
     }
 
     private static void promise14RememberedTrials() {
-        UmbrellaSchool school = schoolWith(4);
+        UmbrellaSchool school = Schools.with(4);
         equal("none at first", school.rememberedTrials(0), 0);
         school.train(0, 0, 0, 3);
         equal("three", school.rememberedTrials(0), 3);
@@ -424,7 +381,7 @@ public final class PromiseTest {
     }
 
     private static void needsTrial(String what, ByUmbrella ofUmbrellaZero) {
-        UmbrellaSchool school = schoolWith(3);
+        UmbrellaSchool school = Schools.with(3);
         raises(what + " without trials", NO_ELEMENT, () -> ofUmbrellaZero.ask(school, 0));
         school.train(0, 1, 1, 9);
         for (int wrong : new int[] {Integer.MIN_VALUE, -1, 3, Integer.MAX_VALUE}) {
@@ -433,7 +390,7 @@ public final class PromiseTest {
     }
 
     private static void promise15TrialRain() {
-        UmbrellaSchool school = schoolWith(3);
+        UmbrellaSchool school = Schools.with(3);
         for (int rain = 0; rain < 4; rain++) {
             school.train(0, rain, 3 - rain, 1);
         }
@@ -445,7 +402,7 @@ public final class PromiseTest {
     }
 
     private static void promise16TrialOpened() {
-        UmbrellaSchool school = exploredSchool(3);
+        UmbrellaSchool school = Schools.explored(3);
         equal("the third trial explored", school.trialOpened(0, 0), true);
         equal("the second did not", school.trialOpened(0, 1), false);
         school.train(0, 0, 0, 1);
@@ -456,7 +413,7 @@ public final class PromiseTest {
     }
 
     private static void promise17TrialReward() {
-        UmbrellaSchool school = exploredSchool(3);
+        UmbrellaSchool school = Schools.explored(3);
         equal("the third trial's reward", school.trialReward(0, 0), 9);
         equal("the first trial's reward", school.trialReward(0, 2), -6);
         school.setGalePenalty(0);
@@ -500,7 +457,7 @@ public final class PromiseTest {
     }
 
     private static void promise20WouldOpen() {
-        UmbrellaSchool school = schoolWith(20);
+        UmbrellaSchool school = Schools.with(20);
         equal("nothing is remembered", school.wouldOpen(0, 3, 0), false);
         school.setPeriod(0, 1);
         school.train(0, 0, 3, 1);
@@ -517,7 +474,7 @@ public final class PromiseTest {
 
     /** Neither the sums nor the means cut to whole numbers would order these as their exact means do. */
     private static void meansAreComparedExactly() {
-        UmbrellaSchool school = schoolWith(20);
+        UmbrellaSchool school = Schools.with(20);
         school.setWetPenalty(3);
         school.setGalePenalty(9);
         school.train(0, 1, 1, 3);
@@ -536,7 +493,7 @@ public final class PromiseTest {
     }
 
     private static void promise21ExploresNext() {
-        UmbrellaSchool school = schoolWith(3);
+        UmbrellaSchool school = Schools.with(3);
         equal("never with period 0", school.exploresNext(0), false);
         school.setPeriod(0, 1);
         equal("always with period 1", school.exploresNext(0), true);
@@ -554,7 +511,7 @@ public final class PromiseTest {
     }
 
     private static void promise22TimesTried() {
-        UmbrellaSchool school = exploredSchool(4);
+        UmbrellaSchool school = Schools.explored(4);
         equal("open", school.timesTried(0, 3, 1, true), 1);
         equal("closed", school.timesTried(0, 3, 1, false), 2);
         equal("elsewhere", school.timesTried(0, 1, 3, false), 0);
@@ -566,7 +523,7 @@ public final class PromiseTest {
     }
 
     private static void promise23RewardSum() {
-        UmbrellaSchool school = exploredSchool(4);
+        UmbrellaSchool school = Schools.explored(4);
         equal("open", school.rewardSum(0, 3, 1, true), 9);
         equal("closed", school.rewardSum(0, 3, 1, false), -12);
         equal("elsewhere", school.rewardSum(0, 1, 3, false), 0);
@@ -579,7 +536,7 @@ public final class PromiseTest {
     }
 
     private static void promise24RewardSumByTrials() {
-        UmbrellaSchool school = exploredSchool(4);
+        UmbrellaSchool school = Schools.explored(4);
         equal("open", school.rewardSumByTrials(0, 3, 1, true), 9);
         equal("closed", school.rewardSumByTrials(0, 3, 1, false), -12);
         equal("elsewhere", school.rewardSumByTrials(0, 1, 3, false), 0);
@@ -587,7 +544,7 @@ public final class PromiseTest {
         equal("one is forgotten", school.rewardSumByTrials(0, 3, 1, false), -6);
         school.forgetRain(0, 3);
         equal("all are forgotten", school.rewardSumByTrials(0, 3, 1, true), 0);
-        UmbrellaSchool other = schoolWith(4);
+        UmbrellaSchool other = Schools.with(4);
         other.train(0, 0, 0, 2);
         other.train(0, 2, 0, 1);
         other.forgetRain(0, 2);
@@ -597,7 +554,7 @@ public final class PromiseTest {
     }
 
     private static void promise25MeanReward() {
-        UmbrellaSchool school = exploredSchool(20);
+        UmbrellaSchool school = Schools.explored(20);
         equal("open", school.meanReward(0, 3, 1, true), 9.0);
         equal("closed", school.meanReward(0, 3, 1, false), -6.0);
         school.setWetPenalty(1);
@@ -621,7 +578,7 @@ public final class PromiseTest {
     }
 
     private static void promise26RightHabits() {
-        UmbrellaSchool school = schoolWith(20);
+        UmbrellaSchool school = Schools.with(20);
         equal("closed is right 6 times", school.rightHabits(0), 6);
         school.setPeriod(0, 1);
         school.train(0, 3, 3, 1);
@@ -635,7 +592,7 @@ public final class PromiseTest {
     }
 
     private static void promise27KnownSituations() {
-        UmbrellaSchool school = schoolWith(4);
+        UmbrellaSchool school = Schools.with(4);
         equal("none at first", school.knownSituations(0), 0);
         school.train(0, 2, 1, 2);
         equal("one", school.knownSituations(0), 1);
@@ -651,7 +608,7 @@ public final class PromiseTest {
 
     /** By number: rain 1 wind 2 thrice; then rain 0 wind 3, rain 3 wind 0 and rain 3 wind 1 twice; rain 0 wind 0. */
     private static UmbrellaSchool rankedSchool() {
-        UmbrellaSchool school = schoolWith(10);
+        UmbrellaSchool school = Schools.with(10);
         school.train(0, 3, 1, 1);
         school.train(0, 3, 0, 2);
         school.train(0, 0, 0, 1);
@@ -674,7 +631,7 @@ public final class PromiseTest {
         school.train(0, 0, 0, 9);
         equal("rain 0, wind 0 nine times", school.situationRain(0, 0), 0);
         equal("behind it the other one", school.situationRain(0, 1), 3);
-        raises("without trials", NO_ELEMENT, () -> schoolWith(3).situationRain(0, 0));
+        raises("without trials", NO_ELEMENT, () -> Schools.with(3).situationRain(0, 0));
         needsUmbrella("situationRain", (s, u) -> s.situationRain(u, -1));
     }
 
@@ -687,14 +644,14 @@ public final class PromiseTest {
         for (int wrong : new int[] {Integer.MIN_VALUE, -1, 5, 16, Integer.MAX_VALUE}) {
             raises("situationWind " + wrong, NO_ELEMENT, () -> school.situationWind(0, wrong));
         }
-        raises("without trials", NO_ELEMENT, () -> schoolWith(3).situationWind(0, 0));
+        raises("without trials", NO_ELEMENT, () -> Schools.with(3).situationWind(0, 0));
         needsUmbrella("situationWind", (s, u) -> s.situationWind(u, -1));
     }
 
     // ---- promises 30 to 43
 
     private static void promise30HasExam() {
-        UmbrellaSchool school = schoolWith(3);
+        UmbrellaSchool school = Schools.with(3);
         school.addUmbrella(3);
         equal("none at first", school.hasExam(0, 2), false);
         school.setWetPenalty(0);
@@ -713,7 +670,7 @@ public final class PromiseTest {
     }
 
     private static void promise31IsGraduate() {
-        UmbrellaSchool school = schoolWith(20);
+        UmbrellaSchool school = Schools.with(20);
         school.setWetPenalty(0);
         school.setGalePenalty(9);
         school.setPeriod(0, 1);
@@ -732,7 +689,7 @@ public final class PromiseTest {
     }
 
     private static void promise32TotalReward() {
-        UmbrellaSchool school = exploredSchool(3);
+        UmbrellaSchool school = Schools.explored(3);
         school.addUmbrella(3);
         equal("total reward", school.totalReward(0), -3);
         equal("the other one's", school.totalReward(1), 0);
@@ -745,7 +702,7 @@ public final class PromiseTest {
     }
 
     private static void promise33TermReward() {
-        UmbrellaSchool school = exploredSchool(3);
+        UmbrellaSchool school = Schools.explored(3);
         equal("term reward", school.termReward(0), -3);
         school.endTerm();
         equal("after the term", school.termReward(0), 0);
@@ -755,7 +712,7 @@ public final class PromiseTest {
     }
 
     private static void promise34Stars() {
-        UmbrellaSchool school = schoolWith(3);
+        UmbrellaSchool school = Schools.with(3);
         school.addUmbrella(3);
         school.train(0, 1, 0, 1);
         equal("none at first", school.stars(1), 0);
@@ -791,7 +748,7 @@ public final class PromiseTest {
         for (int wrong : new int[] {Integer.MIN_VALUE, -1, 5, 6, Integer.MAX_VALUE}) {
             raises("umbrellaByStars " + wrong, NO_ELEMENT, () -> school.umbrellaByStars(wrong));
         }
-        UmbrellaSchool even = schoolWith(3);
+        UmbrellaSchool even = Schools.with(3);
         even.addUmbrella(3);
         equal("of equal ones the first", even.umbrellaByStars(0), 0);
         equal("of equal ones the second", even.umbrellaByStars(1), 1);
@@ -817,7 +774,7 @@ public final class PromiseTest {
     }
 
     private static void promise38Term() {
-        UmbrellaSchool school = schoolWith(3);
+        UmbrellaSchool school = Schools.with(3);
         equal("term at first", school.term(), 0);
         school.endTerm();
         school.endTerm();
@@ -828,14 +785,14 @@ public final class PromiseTest {
 
     /** Rewards -6, -6, 9 of umbrella 0 and -2, -2 of umbrella 1. */
     private static UmbrellaSchool twoUmbrellas() {
-        UmbrellaSchool school = exploredSchool(3);
+        UmbrellaSchool school = Schools.explored(3);
         school.addUmbrella(3);
         school.train(1, 1, 0, 2);
         return school;
     }
 
     private static void promise39SchoolReward() {
-        equal("without trials", schoolWith(3).schoolReward(), 0);
+        equal("without trials", Schools.with(3).schoolReward(), 0);
         UmbrellaSchool school = twoUmbrellas();
         equal("schoolReward", school.schoolReward(), -7);
         school.endTerm();
@@ -844,7 +801,7 @@ public final class PromiseTest {
     }
 
     private static void promise40SchoolRewardByActions() {
-        equal("without trials", schoolWith(3).schoolRewardByActions(), 0);
+        equal("without trials", Schools.with(3).schoolRewardByActions(), 0);
         UmbrellaSchool school = twoUmbrellas();
         equal("schoolRewardByActions", school.schoolRewardByActions(), -7);
         school.endTerm();
@@ -858,19 +815,19 @@ public final class PromiseTest {
 
     private static void promise41MeanSchoolReward() {
         raises("without umbrellas", ArithmeticException.class, () -> new UmbrellaSchool().meanSchoolReward());
-        raises("without trials", ArithmeticException.class, () -> schoolWith(3).meanSchoolReward());
+        raises("without trials", ArithmeticException.class, () -> Schools.with(3).meanSchoolReward());
         UmbrellaSchool school = twoUmbrellas();
         equal("meanSchoolReward", school.meanSchoolReward(), -7.0 / 5.0);
         school.forgetRain(0, 3);
         equal("forgotten trials count", school.meanSchoolReward(), -7.0 / 5.0);
-        UmbrellaSchool zero = schoolWith(3);
+        UmbrellaSchool zero = Schools.with(3);
         zero.train(0, 0, 0, 1);
         equal("a mean of zero", zero.meanSchoolReward(), 0.0);
     }
 
     private static void promise42OpenShare() {
         raises("without umbrellas", ArithmeticException.class, () -> new UmbrellaSchool().openShare());
-        raises("without trials", ArithmeticException.class, () -> schoolWith(3).openShare());
+        raises("without trials", ArithmeticException.class, () -> Schools.with(3).openShare());
         UmbrellaSchool school = twoUmbrellas();
         equal("openShare", school.openShare(), 1.0f / 5.0f);
         school.forgetRain(0, 3);
@@ -896,29 +853,29 @@ public final class PromiseTest {
         school.train(1, 1, 0, 9);
         school.restore();
         equal("after restore", school.isConsistent(), true);
-        run(school, "train 0 31x9;term;add 2");
+        Schools.run(school, "train 0 31x9;term;add 2");
         equal("after a failed script", school.isConsistent(), true);
     }
 
     // ---- promises 44 to 53
 
     private static void promise44RenderHabits() {
-        UmbrellaSchool school = schoolWith(20);
+        UmbrellaSchool school = Schools.with(20);
         equal("the length", school.renderHabits(0), 19);
-        equal("all closed", habits(school, 0), "cccc/cccc/cccc/cccc");
+        equal("all closed", Schools.habits(school, 0), "cccc/cccc/cccc/cccc");
         school.setPeriod(0, 1);
         for (int[] situation : new int[][] {{1, 0}, {2, 0}, {2, 1}, {3, 0}, {3, 1}, {3, 2}}) {
             school.train(0, situation[0], situation[1], 1);
         }
-        equal("the document's own", habits(school, 0), "cccc/occc/oocc/oooc");
+        equal("the document's own", Schools.habits(school, 0), "cccc/occc/oocc/oooc");
         raises("renderHabits 1", NO_INDEX, () -> school.renderHabits(1));
-        equal("the text stays", output(school, 19), "cccc/occc/oocc/oooc");
+        equal("the text stays", Schools.output(school), "cccc/occc/oocc/oooc");
         needsUmbrella("renderHabits", (s, u) -> s.renderHabits(u));
     }
 
     private static void promise45RenderUmbrella() {
-        UmbrellaSchool school = schoolWith(10);
-        equal("a new one", description(school, 0), "0/10p0*0:");
+        UmbrellaSchool school = Schools.with(10);
+        equal("a new one", Schools.description(school, 0), "0/10p0*0:");
         school.setWetPenalty(0);
         school.setGalePenalty(9);
         school.train(0, 0, 0, 5);
@@ -933,22 +890,22 @@ public final class PromiseTest {
         school.train(0, 2, 0, 1);
         school.examine(0, 0);
         school.setPeriod(0, 3);
-        equal("two exams", description(school, 0), "7/10p3*0:02");
+        equal("two exams", Schools.description(school, 0), "7/10p3*0:02");
         school.forgetRain(0, 1);
         school.forgetRain(0, 2);
-        equal("the document's own", description(school, 0), "5/10p3*0:02");
+        equal("the document's own", Schools.description(school, 0), "5/10p3*0:02");
         equal("its length", school.renderUmbrella(0), 11);
         for (int i = 0; i < 12; i++) {
             school.endTerm();
         }
-        equal("stars of two digits", description(school, 0), "5/10p3*12:02");
+        equal("stars of two digits", Schools.description(school, 0), "5/10p3*12:02");
         raises("renderUmbrella 1", NO_INDEX, () -> school.renderUmbrella(1));
-        equal("the text stays", output(school, 12), "5/10p3*12:02");
+        equal("the text stays", Schools.output(school), "5/10p3*12:02");
         needsUmbrella("renderUmbrella", (s, u) -> s.renderUmbrella(u));
     }
 
     private static void promise46OutputAt() {
-        UmbrellaSchool school = schoolWith(3);
+        UmbrellaSchool school = Schools.with(3);
         raises("an empty text", NO_INDEX, () -> school.outputAt(0));
         school.renderHabits(0);
         equal("a sign between rains", school.outputAt(4), '/');
@@ -982,38 +939,38 @@ public final class PromiseTest {
 
     private static void promise48RunScript() {
         UmbrellaSchool school = new UmbrellaSchool();
-        equal("one command", run(school, "add 5"), 1);
-        equal("all commands", run(school, "add 20;wet 4;gale 5;period 0 3;train 0 31x3;train 1 20"), 6);
+        equal("one command", Schools.run(school, "add 5"), 1);
+        equal("all commands", Schools.run(school, "add 20;wet 4;gale 5;period 0 3;train 0 31x3;train 1 20"), 6);
         equal("the memory", school.memory(1), 20);
         equal("penalties", school.wetPenalty() * 10 + school.galePenalty(), 45);
         equal("three trials", school.totalReward(0), -12 - 12 + 7);
         equal("one trial", school.trials(1), 1);
-        equal("the others", run(school, "exam 0 3;term;forget 0 3"), 3);
+        equal("the others", Schools.run(school, "exam 0 3;term;forget 0 3"), 3);
         equal("the star", school.stars(1), 1);
         equal("forgotten", school.rememberedTrials(0), 0);
         equal("a script is one change", school.undo(), 2);
         equal("it is undone", school.term(), 0);
         equal("the rest of the buffer", school.type('t'), 1);
-        equal("a half word", run(school, "er"), BAD_ARGUMENT);
-        equal("the buffer is empty", run(school, ""), BAD_ARGUMENT);
-        equal("60 signs", run(school, "term;term;term;term;term;term;term;term;term;term;train 1 00"), 11);
+        equal("a half word", Schools.run(school, "er"), BAD_ARGUMENT);
+        equal("the buffer is empty", Schools.run(school, ""), BAD_ARGUMENT);
+        equal("60 signs", Schools.run(school, "term;term;term;term;term;term;term;term;term;term;train 1 00"), 11);
         equal("a term each", school.term(), 10);
         failedScriptsChangeNothing();
     }
 
     private static void failedScriptsChangeNothing() {
-        UmbrellaSchool school = exploredSchool(3);
+        UmbrellaSchool school = Schools.explored(3);
         for (int i = 0; i < 9; i++) {
             school.setWetPenalty(i);
         }
-        equal("a bad number", run(school, "wet 0;train 0 33x9;term;add 21;term"), BAD_STATE);
+        equal("a bad number", Schools.run(school, "wet 0;train 0 33x9;term;add 21;term"), BAD_STATE);
         equal("nothing changed", school.wetPenalty() * 1000 + school.term() * 100 + school.trials(0), 8003);
-        equal("no umbrella", run(school, "add 3;term;train 2 00"), BAD_STATE);
+        equal("no umbrella", Schools.run(school, "add 3;term;train 2 00"), BAD_STATE);
         equal("no umbrella was added", school.umbrellaCount(), 1);
-        equal("no trials", run(school, "train 0 00x0"), BAD_STATE);
-        equal("no such rain", run(school, "train 0 40"), BAD_STATE);
-        equal("no such wind", run(school, "exam 0 4"), BAD_STATE);
-        equal("a wrong form", run(school, "wet 3;wet 10"), BAD_ARGUMENT);
+        equal("no trials", Schools.run(school, "train 0 00x0"), BAD_STATE);
+        equal("no such rain", Schools.run(school, "train 0 40"), BAD_STATE);
+        equal("no such wind", Schools.run(school, "exam 0 4"), BAD_STATE);
+        equal("a wrong form", Schools.run(school, "wet 3;wet 10"), BAD_ARGUMENT);
         equal("8 changes can be undone still", school.undo(), 7);
         equal("the latest is the penalty", school.wetPenalty(), 7);
         for (int i = 6; i >= 0; i--) {
@@ -1060,26 +1017,26 @@ public final class PromiseTest {
         errorAt(school, "exam 0 ", 7);
         errorAt(school, "term; term", 5);
         errorAt(school, "term;term;term;term;term;term;term;term;term;term;term;term;", 60);
-        run(school, "add 2");
-        run(school, "add 3");
+        Schools.run(school, "add 2");
+        Schools.run(school, "add 3");
         school.undo();
         equal("the latest wrong form stays", school.errorPosition(), 60);
         raises("a failed command only", NO_ELEMENT, () -> {
             UmbrellaSchool other = new UmbrellaSchool();
-            run(other, "add 2");
+            Schools.run(other, "add 2");
             return other.errorPosition();
         });
     }
 
     private static void errorAt(UmbrellaSchool school, String script, int due) {
-        equal("'" + script + "'", run(school, script), BAD_ARGUMENT);
+        equal("'" + script + "'", Schools.run(school, script), BAD_ARGUMENT);
         equal("the error position of '" + script + "'", school.errorPosition(), due);
     }
 
     private static void promise50FailedCommand() {
         UmbrellaSchool school = new UmbrellaSchool();
         raises("no script yet", NO_ELEMENT, () -> school.failedCommand());
-        equal("a wrong form", run(school, "add"), BAD_ARGUMENT);
+        equal("a wrong form", Schools.run(school, "add"), BAD_ARGUMENT);
         raises("only a wrong form", NO_ELEMENT, () -> school.failedCommand());
         failsAt(school, "term", 0);
         failsAt(school, "add 3;add 20;add 02", 2);
@@ -1087,13 +1044,13 @@ public final class PromiseTest {
         failsAt(school, "add 3;period 1 0", 1);
         failsAt(school, "add 3;forget 0 3;forget 0 4", 2);
         failsAt(school, "add 3;add 3;add 3;add 3;add 3;add 3;add 3;add 3", 6);
-        equal("a right script", run(school, "add 3;train 0 00x9;period 0 9;wet 9;gale 0;exam 0 3;term"), 7);
+        equal("a right script", Schools.run(school, "add 3;train 0 00x9;period 0 9;wet 9;gale 0;exam 0 3;term"), 7);
         school.undo();
         equal("the latest one stays", school.failedCommand(), 6);
     }
 
     private static void failsAt(UmbrellaSchool school, String script, int due) {
-        equal("'" + script + "'", run(school, script), BAD_STATE);
+        equal("'" + script + "'", Schools.run(school, script), BAD_STATE);
         equal("the failed command of '" + script + "'", school.failedCommand(), due);
         equal("no command took effect", school.umbrellaCount(), 0);
     }
@@ -1163,7 +1120,7 @@ public final class PromiseTest {
     }
 
     private static void promise53Restore() {
-        UmbrellaSchool school = exploredSchool(3);
+        UmbrellaSchool school = Schools.explored(3);
         raises("no snapshot", BAD_STATE, () -> school.restore());
         equal("a failed restore leaves the changes", school.undo(), 2);
         school.train(0, 3, 1, 3);
@@ -1177,15 +1134,15 @@ public final class PromiseTest {
         school.addUmbrella(4);
         school.endTerm();
         school.examine(0, 2);
-        run(school, "add");
-        run(school, "add 2");
+        Schools.run(school, "add");
+        Schools.run(school, "add 2");
         school.renderUmbrella(1);
         equal("restore", school.restore(), 1);
         raises("nothing to undo then", BAD_STATE, () -> school.undo());
         equal("the output text stays", school.outputAt(2), '4');
         equal("the error position stays", school.errorPosition(), 3);
         equal("the failed command stays", school.failedCommand(), 0);
-        equal("the umbrella", description(school, 0), "3/3p3*1:");
+        equal("the umbrella", Schools.description(school, 0), "3/3p3*1:");
         equal("penalties", school.wetPenalty() * 10 + school.galePenalty(), 23);
         equal("term and rewards", school.term() * 100 + school.schoolReward(), 97);
         equal("the accounts", school.schoolRewardByActions(), -3);
@@ -1201,7 +1158,7 @@ public final class PromiseTest {
     }
 
     private static void restoreBringsTrialsAndMemoriesBack() {
-        UmbrellaSchool school = schoolWith(5);
+        UmbrellaSchool school = Schools.with(5);
         school.train(0, 2, 1, 3);
         school.save();
         school.train(0, 1, 1, 5);
